@@ -686,7 +686,7 @@ public final class PapersHeld {
 
         /** The byte at a place, NONE from the tape's end on. */
         int byteAt(int place) {
-            return isBelow(place, length) ? bytes[place] : NONE;
+            return place >= 0 && place < length ? bytes[place] : NONE;
         }
     }
 
@@ -771,6 +771,24 @@ public final class PapersHeld {
         int place;
 
         void readTape() {
+            startOver();
+            // Each TOKEN has a byte at least, and the end comes behind them.
+            for (int i = 0; i <= MOST_BYTES && !isDone; i++) {
+                skipBlanks();
+                place = at;
+                int token = tape.byteAt(at);
+                at++;
+                if (token == NONE) {
+                    readTheEnd();
+                } else if (wantsOne) {
+                    readOne(token);
+                } else {
+                    readBetween(token);
+                }
+            }
+        }
+
+        private void startOver() {
             texts.clearAtHand();
             waitingCount = 0;
             openCount = 0;
@@ -780,25 +798,11 @@ public final class PapersHeld {
             at = 0;
             hasRead = true;
             fault = 0;
-            // Each TOKEN has a byte at least, and the end comes behind them.
-            for (int i = 0; i <= MOST_BYTES && !isDone; i++) {
-                readToken();
-            }
         }
 
-        private void readToken() {
+        private void skipBlanks() {
             for (int i = 0; i < MOST_BYTES && tape.byteAt(at) == ' '; i++) {
                 at++;
-            }
-            place = at;
-            int token = tape.byteAt(at);
-            at++;
-            if (token == NONE) {
-                readTheEnd();
-            } else if (wantsOne) {
-                readOne(token);
-            } else {
-                readBetween(token);
             }
         }
 
@@ -943,14 +947,14 @@ public final class PapersHeld {
         }
 
         private void putOff(int sign) {
-            if (isBelow(waitingCount, MOST_BYTES)) {
+            if (waitingCount < MOST_BYTES) {
                 waiting[waitingCount] = sign;
                 waitingCount++;
             }
         }
 
         private int innermost() {
-            return isBelow(waitingCount - 1, MOST_BYTES) ? waiting[waitingCount - 1] : NONE;
+            return waitingCount > 0 ? waiting[waitingCount - 1] : NONE;
         }
 
         private void fail(int itsFault) {

@@ -185,6 +185,9 @@ public final class ThingsAndStoresTest {
         x.copy(0, 1);
         CHECKS.due("to where it is", true, x.move(0, 5, 1));
         CHECKS.due("it goes out of the one alone", 2, x.versionOf(0, 3));
+        x.copy(0, 4);
+        CHECKS.due("with a third copy", true, x.move(0, 1, 0));
+        CHECKS.due("which stays", 17, x.versionOf(0, 3));
     }
 
     private static void promise7Broken() {
@@ -247,6 +250,8 @@ public final class ThingsAndStoresTest {
         x.version(0, 0, 1);
         x.backup(0);
         x.backup(1);
+        x.backup(1);
+        x.backup(0);
         x.forget(4);
         CHECKS.due("both go", 2, x.days(1));
         CHECKS.due("there", 0, x.about(6));
