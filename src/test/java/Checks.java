@@ -25,6 +25,10 @@ final class Checks {
         return wrong;
     }
 
+    int answersSoFar() {
+        return right + wrong;
+    }
+
     void finish() {
         System.out.println(test + ": " + right + " answers as due, " + wrong + " not");
         if (wrong != 0 || right == 0) {

@@ -1,9 +1,10 @@
 import java.util.Random;
 
-/** Runs of 512 calls drawn with fixed seeds, each answer beside that of the Model. */
+/** Runs of close to 512 calls drawn with fixed seeds, each answer beside that of the Model. */
 public final class ModelTest {
-    private static final int RUNS = 400;
-    private static final int CALLS = 512;
+    private static final int RUNS = 1000;
+    /** What an object is used for at most, less what one step may take. */
+    private static final int CALLS = 512 - 20;
     private static final int[] EDGES = {-1, Integer.MIN_VALUE, Integer.MAX_VALUE, 5001, 6, 10, 12, 31, 32, 40, 120};
     private static final Checks CHECKS = new Checks("ModelTest");
 
@@ -20,7 +21,8 @@ public final class ModelTest {
     public static void main(String[] args) {
         for (int seed = 0; seed < RUNS && CHECKS.wrongSoFar() == 0; seed++) {
             ModelTest run = new ModelTest(seed);
-            for (int i = 0; i < CALLS && CHECKS.wrongSoFar() == 0; i++) {
+            int before = CHECKS.answersSoFar();
+            for (int i = 0; CHECKS.answersSoFar() - before < CALLS && CHECKS.wrongSoFar() == 0; i++) {
                 run.oneCall("seed " + seed + ", step " + i + ": ");
             }
         }
