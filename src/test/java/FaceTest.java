@@ -2,7 +2,10 @@ import java.lang.reflect.Constructor;
 import java.lang.reflect.Field;
 import java.lang.reflect.Method;
 import java.lang.reflect.Modifier;
+import java.nio.file.Files;
+import java.nio.file.Path;
 import java.util.Arrays;
+import java.util.List;
 import java.util.Set;
 import java.util.TreeSet;
 
@@ -17,12 +20,13 @@ public final class FaceTest {
             "int would(int,int)", "int fits(int)", "int fit(int,int)", "int record(int,int)", "int chain()",
             "int about(int)");
 
-    public static void main(String[] args) {
+    public static void main(String[] args) throws Exception {
         Class<?> face = PapersHeld.class;
         CHECKS.due("public and final", Modifier.PUBLIC | Modifier.FINAL, face.getModifiers());
         CHECKS.due("NONE", -1, PapersHeld.NONE);
         methods(face);
         fields(face);
+        listIsTheDocuments();
         for (Constructor<?> made : face.getDeclaredConstructors()) {
             CHECKS.due("constructor's parameters", 0, made.getParameterCount());
             CHECKS.due("constructor is public", true, Modifier.isPublic(made.getModifiers()));
@@ -55,5 +59,23 @@ public final class FaceTest {
             boolean isPrivate = Modifier.isPrivate(field.getModifiers());
             CHECKS.due("field " + field.getName(), true, isPrivate != field.getName().equals("NONE"));
         }
+    }
+
+    /** The list above is written down once more, so that it is there without the document too. */
+    private static void listIsTheDocuments() throws Exception {
+        Path document = Path.of("../shared/DOC.md");
+        if (!Files.isReadable(document)) {
+            System.out.println("no " + document + ": the face was not compared with it");
+            return;
+        }
+        List<String> lines = Files.readAllLines(document);
+        int from = lines.indexOf("```java");
+        Set<String> told = new TreeSet<>();
+        for (String line : lines.subList(from, from + lines.subList(from, lines.size()).indexOf("```"))) {
+            if (line.matches("    public \\w+ \\w+\\(.*\\);")) {
+                told.add(line.replaceAll(" \\w+([,)])", "$1").replace(", ", ",").replaceAll("    public (.*);", "$1"));
+            }
+        }
+        CHECKS.due("methods, told " + told, true, told.equals(FACE));
     }
 }

@@ -408,6 +408,9 @@ final class SentencesOnHolds {
         PapersHeld full = twelveHolds();
         s.due("the 13th", -1, touch(full, "w0", 12, 0));
         s.due("the tape stays", 2, full.about(9));
+        s.due("with a fault too", -1, touch(full, "w", 12, 0));
+        s.due("the tape stays", 1, full.about(9));
+        s.due("its fault isn't looked for", 0, full.fault(0));
     }
 
     private static void noTouchOfOthers(Sentences s) {
@@ -418,6 +421,9 @@ final class SentencesOnHolds {
         }
         s.unchanged("others", before, x);
         s.due("the tape stays", 2, x.touch(0, 0));
+        s.due("with a fault too", -1, touch(x, "w", 0, 2));
+        s.due("the tape stays", 1, x.about(9));
+        s.due("its fault isn't looked for", 0, x.fault(0));
     }
 
     private static void touchChangesNothingElse(Sentences s) {
@@ -482,6 +488,10 @@ final class SentencesOnHolds {
         Checks.tape(full, "w0");
         s.due("the 13th", false, full.change(12));
         s.due("the tape stays", 2, full.about(9));
+        Checks.tape(full, "w");
+        s.due("with a fault too", false, full.change(12));
+        s.due("the tape stays", 1, full.about(9));
+        s.due("its fault isn't looked for", 0, full.fault(0));
     }
 
     private static void noChangeBehindItsEnd(Sentences s) {
